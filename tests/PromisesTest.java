@@ -458,6 +458,8 @@ public final class PromisesTest {
         x.pass(1);
         x.march(0, 9, 24, 60, 0);
         due("20 all that is told", x.beyond(0, 1), 9);
+        x.march(1, 199, 1, 10, 0);
+        due("20 the last day", x.beyond(1, 1), 199);
     }
 
     private static void p21to22() {
@@ -638,6 +640,12 @@ public final class PromisesTest {
         x.misprint(7, 200);
         due("29 both are one", x.made(0, 1), 1);
         due("29 shows", x.made(0, 0), 1);
+        x.height(0, 9, 25, 0, false);
+        x.sun(9, 1);
+        due("29 no misprint on day 9", x.made(0, 0), 1);
+        x.misprint(9, 0);
+        due("29 a misprint of 0", x.made(0, 0), 2);
+        x.misprint(9, -1);
         x.misprint(6, 191);
         due("29 of its day alone", x.made(0, 0), 1);
         x.claim(1, 0, 0, 0);
