@@ -13,6 +13,10 @@ final class Due {
         }
     }
 
+    static int asked() {
+        return asked;
+    }
+
     static void end() {
         System.out.println(asked + " answers asked for, " + wrong + " not as due");
         if (wrong != 0) {
