@@ -302,6 +302,13 @@ public final class PromiseWaysLawsTest extends Edge {
         x.march(0, 0, 1, 10, 0);
         due("THE WAY by that YEAR", x.least(0, 98, 3), 2);
         due("the YEAR ahead", x.least(0, 98, 2), 0);
+        PoleLogs y = withMan();
+        y.party(0, 1, 0, 0);
+        y.claim(0, 0, 0, 0);
+        y.march(0, 199, 1, 10, 0);
+        y.word(0, 199, 0, 0, -304, 0);
+        due("the last DAY", y.least(0, 5, 0), 1);
+        due("another n", y.least(0, 4, 0), 0);
     }
 
     @Says(in = "Promise 27", value = "NONE: log, year")

@@ -208,6 +208,24 @@ public final class TermsIceRowsTest extends Edge {
         }
     }
 
+    /** 0 to 144 miles, so that a thousandth more or less shows somewhere. */
+    @Says("a mile by them has, in thousandths: dx 0, 383, 707, 924, 1000, 924, 707, 383, 0, -383, -707, -924, -1000, -924, -707,"
+        + " -383")
+    static void thousandthsOfAMile() {
+        int[] east = {0, 383, 707, 924, 1000, 924, 707, 383, 0, -383, -707, -924, -1000, -924, -707, -383};
+        for (int bearing = 0; bearing < 16; bearing++) {
+            for (int hours : new int[] {24, 23, 19, 17}) {
+                for (int pace = 0; pace <= 60; pace++) {
+                    int miles = hours * pace / 10;
+                    PoleLogs x = withStart(0, 0);
+                    x.march(0, 0, hours, pace, bearing);
+                    due(miles + " miles by " + bearing, x.place(0, 0, 0),
+                        place(miles * east[bearing] / 1000, miles * east[(bearing + 4) % 16] / 1000));
+                }
+            }
+        }
+    }
+
     @Says("MEN 0 .. 11, as they come")
     static void twelveMen() {
         PoleLogs x = fresh();

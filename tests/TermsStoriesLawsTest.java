@@ -166,6 +166,11 @@ public final class TermsStoriesLawsTest extends Edge {
         due("100 * 1 / 17 is 5", pictureFits(1, 17, 0, 0, 270), 1);
         due("100 * 1 / 16 is 6", pictureFits(1, 16, 0, 0, 270), 0);
         due("100 * 1 / 21 is 4", pictureFits(1, 21, 0, 0, 270), 0);
+        // 13 parts are 702 .. 755 minutes
+        due("13900 / 994 is 13", pictureFits(139, 994, 0, 702, 0), 1);
+        due("13900 / 993 is 13", pictureFits(139, 993, 0, 755, 0), 1);
+        due("13900 / 992 is 14", pictureFits(139, 992, 0, 755, 0), 0);
+        due("13900 / 992 is 14", pictureFits(139, 992, 0, 756, 0), 1);
         due("7 less 2", pictureFits(7, 100, 2, 0, 270), 1);
         due("8 less 2", pictureFits(8, 100, 2, 0, 270), 0);
         due("3 and 2", pictureFits(3, 100, 2, 0, 270), 1);
@@ -367,6 +372,11 @@ public final class TermsStoriesLawsTest extends Edge {
         due("NEAR", x.least(0, 1, 0), 1);
         x.word(0, 0, 0, 9, 9, 0);
         due("THERE and NEAR", x.least(0, 1, 0), 0);
+        PoleLogs y = withMan();
+        y.drift(12, 1, 0);
+        y.claim(0, 9, 9, 0);
+        y.word(0, 0, 0, 1, -300, 0);
+        due("FALSE in each", y.least(0, 1, 0), 0);
     }
 
     // ---- 6
@@ -620,6 +630,12 @@ public final class TermsStoriesLawsTest extends Edge {
             all.torn(0, 0, 0, 0, 1, 0);
         }
         due("120 of them", holds(all, "h=120&k=120&f=0&q=0"), 1);
+        PoleLogs late = withMan();
+        late.claim(0, 0, 0, 0);
+        late.party(0, 1, 0, 0);
+        late.march(0, 199, 1, 10, 0);
+        late.word(0, 199, 0, 0, -299, 0);
+        due("the last DAY", holds(late, "w=1&f=0&m=0"), 1);
     }
 
     @Says("A ( or ! within 4 others is none.")
